@@ -1713,6 +1713,7 @@ public final class FourHands {
         private final Law law;
         private final int[] list = new int[NOTES_MOST];
         private final int[] cans = new int[NOTES_MOST];
+        private final int[] far = new int[NOTES_MOST * HANDS_MOST];
         // The hands that some note ahead of each one can have.
         private final int[] ahead = new int[NOTES_MOST + 1];
         private final int[] worth = new int[(NOTES_MOST + 1) * SETS];
@@ -1728,8 +1729,8 @@ public final class FourHands {
 
         void find(State s, int beat) {
             gather(s, beat);
-            weigh(s);
-            choose(s);
+            weigh();
+            choose();
         }
 
         private void gather(State s, int beat) {
@@ -1743,6 +1744,7 @@ public final class FourHands {
                     cans[size] = 0;
                     for (int hand = 0; hand < s.hands && hand < HANDS_MOST; hand++) {
                         cans[size] |= law.isAble(s, hand, note) ? 1 << hand : 0;
+                        far[size * HANDS_MOST + hand] = Math.abs(s.keyOf[note] - s.at[hand]);
                     }
                     ahead[size + 1] = ahead[size] | cans[size];
                     size++;
@@ -1754,24 +1756,24 @@ public final class FourHands {
          * What the notes from each one on are worth at most, for each set of hands that those ahead of it may have
          * used; other sets are never asked for.
          */
-        private void weigh(State s) {
+        private void weigh() {
             for (int used = 0; used <= ahead[size]; used++) {
                 worth[size * SETS + used] = 0;
             }
             for (int i = size - 1; i >= 0; i--) {
                 for (int used = 0; used <= ahead[i]; used++) {
                     if ((used & ~ahead[i]) == 0) {
-                        worth[i * SETS + used] = mostFrom(s, i, used);
+                        worth[i * SETS + used] = mostFrom(i, used);
                     }
                 }
             }
         }
 
-        private int mostFrom(State s, int i, int used) {
+        private int mostFrom(int i, int used) {
             int most = worth[(i + 1) * SETS + used];
             for (int hand = 0; hand < HANDS_MOST; hand++) {
                 if (isOpen(i, hand, used)) {
-                    most = Math.max(most, worthWith(s, i, hand, used));
+                    most = Math.max(most, worthWith(i, hand, used));
                 }
             }
             return most;
@@ -1781,15 +1783,11 @@ public final class FourHands {
             return ((cans[i] & ~used) >> hand & 1) != 0;
         }
 
-        private int worthWith(State s, int i, int hand, int used) {
-            return NOTE_WORTH - stepTo(s, i, hand) + worth[(i + 1) * SETS + (used | 1 << hand)];
+        private int worthWith(int i, int hand, int used) {
+            return NOTE_WORTH - far[i * HANDS_MOST + hand] + worth[(i + 1) * SETS + (used | 1 << hand)];
         }
 
-        private int stepTo(State s, int i, int hand) {
-            return Math.abs(s.keyOf[list[i]] - s.at[hand]);
-        }
-
-        private void choose(State s) {
+        private void choose() {
             for (int hand = 0; hand < HANDS_MOST; hand++) {
                 noteOf[hand] = NONE;
             }
@@ -1797,11 +1795,11 @@ public final class FourHands {
             distance = 0;
             int used = 0;
             for (int i = 0; i < size; i++) {
-                int hand = firstHand(s, i, used);
+                int hand = firstHand(i, used);
                 if (hand == NONE) {
                     left |= 1 << list[i];
                 } else {
-                    distance += stepTo(s, i, hand);
+                    distance += far[i * HANDS_MOST + hand];
                     handOf[list[i]] = hand;
                     noteOf[hand] = list[i];
                     used |= 1 << hand;
@@ -1809,9 +1807,9 @@ public final class FourHands {
             }
         }
 
-        private int firstHand(State s, int i, int used) {
+        private int firstHand(int i, int used) {
             for (int hand = 0; hand < HANDS_MOST; hand++) {
-                if (isOpen(i, hand, used) && worthWith(s, i, hand, used) == worth[i * SETS + used]) {
+                if (isOpen(i, hand, used) && worthWith(i, hand, used) == worth[i * SETS + used]) {
                     return hand;
                 }
             }
