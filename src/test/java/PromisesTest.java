@@ -199,6 +199,16 @@ public final class PromisesTest {
         wrongPiece(x, "slip 1,slip 2", 6);
         wrongPiece(x, "slip\t1", 4);
         wrongPiece(x, "far 1", 0);
+        String[] whole = {"hand of 1 at 1 reach 1 skill 1", "note 3 at 3 hard 1", "slip 1", "beat 1", "page 1"};
+        for (String line : whole) {
+            for (int end = 1; end < line.length(); end++) {
+                if (line.charAt(end) == ' ' && !line.startsWith("note 3 at 3") || end < 9 && line.charAt(end) == ' ') {
+                    int more = Character.isDigit(line.charAt(end - 1)) ? end : end + 1;
+                    wrongPiece(x, line.substring(0, more), more);
+                    wrongPiece(x, line.substring(0, more) + ";slip 1", more);
+                }
+            }
+        }
         is("14 lines", add(x, lines("slip 3", 14)), 4);
         wrongPiece(x, lines("slip 3", 15), 14 * 7);
         wrongPiece(x, lines("slip 3", 14) + ";  ", 14 * 7 + 2);
@@ -254,6 +264,17 @@ public final class PromisesTest {
         wrongLaw(x, "take if (low", 12);
         wrongLaw(x, "take if low)", 11);
         wrongLaw(x, "take if (1) < 2", 10);
+        wrongLaw(x, "take if not", 11);
+        wrongLaw(x, "take if (", 9);
+        wrongLaw(x, "take if 1 <", 11);
+        wrongLaw(x, "take if 1 < ;take", 12);
+        wrongLaw(x, "take if not ;take", 12);
+        wrongLaw(x, "take if 1 + ;take", 12);
+        wrongLaw(x, "take if key", 11);
+        wrongLaw(x, "far ;take", 4);
+        wrongLaw(x, "take;", 5);
+        wrongLaw(x, "take if low or ;take", 15);
+        wrongLaw(x, "take if (low and ;take", 17);
         wrongLaw(x, "take if ((((((( low", 14);
         wrongLaw(x, "take if not(not(not(not left", 20);
         is("6 deep", rule(x, "take if ((((((low)))))) and not not not not not not left"), 1);
@@ -268,6 +289,11 @@ public final class PromisesTest {
         }
         rule(x, "take if hand > 5 and hand < 7 and tired < 1 and player > 2 and player < 4 and not left and key > 30");
         is("the third one", x.note(0, 4), 1);
+        rule(x, "far 9 if left");
+        x.put(0, 31);
+        is("the key itself is not left", x.reaches(0, 0), 10);
+        x.put(0, 32);
+        is("left", x.reaches(0, 0), 19);
         rule(x, "take if left");
         is("the third one has nothing left of it", x.note(0, 4), 0);
         rule(x, "take if low;take if key > 63");
@@ -529,8 +555,10 @@ public final class PromisesTest {
         FourHands y = piece(DUET);
         is("part", y.part(), 3);
         is("now none is left of beat 2", y.left(2), 0);
-        y.put(1, 22);
-        is("part", y.part(), 3);
+        y.turn(1);
+        is("12 turns", y.part(), 3);
+        FourHands last = piece("note 1 at 11");
+        is("12 turns", last.part(), 1);
 
         promise = 26;
         is("easy", y.easy(), false);
@@ -547,6 +575,8 @@ public final class PromisesTest {
         is("r 11", w.hands(0, 11), 1);
         is("r 40", w.hands(0, 40), 1);
         is("without notes", w.hands(1, 3), 0);
+        is("keys 0 and 63", piece("note 0 at 0;note 63 at 0").hands(0, 31), 2);
+        is("keys 0 and 63", piece("note 0 at 0;note 63 at 0").hands(0, 32), 1);
         argument("r 41", () -> w.hands(0, 41));
         argument("r -1", () -> w.hands(0, -1));
         index("beat 12", () -> w.hands(12, 41));
@@ -608,6 +638,7 @@ public final class PromisesTest {
         is("by the law of that beat", s.better(1), 5);
         s.strike(0, true);
         fails("struck", STATE, () -> s.better(0));
+        is("beat 0", piece("hand of 0 at 10 reach 5 skill 9;note 10 at 3;note 11 at 3").better(0), 0);
         index("better(4)", () -> s.better(4));
         index("better(-1)", () -> s.better(-1));
     }
@@ -647,6 +678,13 @@ public final class PromisesTest {
         fails("no key", ARGUMENT, x::next);
         is("without a tune", new FourHands().next(), -1);
         is("a tune of one", piece("note 9 at 9").next(), 9);
+        FourHands u = piece("note 5 at 0;note 9 at 1;note 5 at 2;note 7 at 3;note 4 at 4;note 9 at 5;note 6 at 6");
+        int[][] rows = {{}, {5}, {9}, {4, 9}, {5, 9}, {3, 9}, {7}, {6}, {5, 9, 5}};
+        int[] next = {5, 7, 5, 6, 5, 5, 4, 5, 7};
+        for (int i = 0; i < rows.length; i++) {
+            tellBytes(u, rows[i]);
+            is("next of tune u " + i, u.next(), next[i]);
+        }
 
         promise = 37;
         FourHands y = piece("note 0 at 0;note 12 at 0;note 24 at 0;note 60 at 0;note 61 at 0;note 48 at 1;note 36 at 1;note 5 at 2;note 17 at 3");
@@ -659,6 +697,7 @@ public final class PromisesTest {
         is("sevens", z.sevens(), 16);
         z.strike(0, true);
         is("six", z.sevens(), 0);
+        is("beat 0", piece("note 0 at 0;note 1 at 0;note 2 at 0;note 3 at 0;note 4 at 0;note 5 at 0;note 6 at 0;note 7 at 0").sevens(), 1);
 
         promise = 39;
         is("like", z.like(), 0);
@@ -666,6 +705,7 @@ public final class PromisesTest {
         z.strike(7, true);
         is("like", z.like(), 1);
         is("some keys", new FourHands().like(), 0);
+        is("beats beside each other", piece("note 1 at 10;note 1 at 11;note 2 at 11;note 2 at 10").like(), 1);
         is("pairs", piece("note 1 at 0;note 1 at 5;note 1 at 11;note 2 at 3").like(), 3);
     }
 
@@ -709,6 +749,10 @@ public final class PromisesTest {
         fails("half a row", ARGUMENT, x::ask);
         is("the tape is used up", x.end(1), false);
         is("of several the least", piece("note 1 at 0;note 1 at 1").ask(), 0);
+        FourHands y = piece("note 0 at 0;note 63 at 0 hard 9;note 30 at 0 hard 9;note 30 at 1 hard 4");
+        is("160 and 200 against 80 and 280", y.ask(), 2);
+        tellBytes(y, 2, 0);
+        is("ask", y.ask(), 1);
     }
 
     private static void players() {
@@ -838,6 +882,7 @@ public final class PromisesTest {
         is("hardest", piece(DUET).hardest(), 2);
         FourHands h = piece("note 1 at 0;note 2 at 0 hard 4;note 3 at 0 hard 4");
         is("of several the least", h.hardest(), 1);
+        is("the first one", piece("note 1 at 0 hard 1;note 2 at 0").hardest(), 0);
         h.strike(1, true);
         is("not struck", h.hardest(), 2);
         h.strike(0, true);
@@ -912,6 +957,9 @@ public final class PromisesTest {
         is("they are not one", low < high, true);
         is("the seed stays", z.seed(1), 77);
         is("0 turns", z.bounds(0, true), 0);
+        FourHands seven = piece("hand of 0 at 1 reach 1 skill 9;slip 17;note 1 at 0;note 1 at 1;note 1 at 2;note 1 at 3;note 1 at 4;note 1 at 5;note 1 at 6");
+        is("seed 6 alone slips once", seven.bounds(7, false), 1);
+        is("seed 1 alone slips thrice", seven.bounds(7, true), 3);
         argument("n 61", () -> z.bounds(61, true));
         argument("n -1", () -> z.bounds(-1, false));
     }
