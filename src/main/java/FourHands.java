@@ -1108,15 +1108,19 @@ public final class FourHands {
 
         void remember(State s) {
             newest = (newest + 1) % MOST;
-            kept[newest].copyFrom(s);
-            size = Math.min(MOST, size + 1);
+            State place = kept[newest];
+            if (place != null) {
+                place.copyFrom(s);
+                size = Math.min(MOST, size + 1);
+            }
         }
 
         boolean restore(State s) {
-            if (size == 0) {
+            State latest = kept[newest];
+            if (size == 0 || latest == null) {
                 return false;
             }
-            s.copyFrom(kept[newest]);
+            s.copyFrom(latest);
             newest = (newest + MOST - 1) % MOST;
             size--;
             return true;
