@@ -1,87 +1,8 @@
-import java.util.NoSuchElementException;
-import java.util.function.BooleanSupplier;
-import java.util.function.IntSupplier;
-
 /** Each promise of the document by its number: what is ordinary, its edges, and wrong inputs. */
-public final class PromisesTest {
-    private static int checks = 0;
-    private static int wrong = 0;
-    private static int promise = 0;
-
-    private static final Class<?> INDEX = IndexOutOfBoundsException.class;
-    private static final Class<?> ARGUMENT = IllegalArgumentException.class;
-    private static final Class<?> STATE = IllegalStateException.class;
-    private static final Class<?> ELEMENT = NoSuchElementException.class;
-    private static final Class<?> UNSUPPORTED = UnsupportedOperationException.class;
-
+public final class PromisesTest extends Checks {
     /** Two hands, six notes: of beat 0 note 2 is left over, of beat 1 note 3, of beat 2 none. */
     private static final String DUET = "hand of 0 at 10 reach 5 skill 9;hand of 1 at 20 reach 5 skill 5;"
         + "note 12 at 0;note 15 at 0;note 18 at 0 hard 6;note 40 at 1 hard 2;note 12 at 2;note 24 at 2 hard 3";
-
-    private static void is(String what, int got, int want) {
-        checks++;
-        if (got != want) {
-            wrong++;
-            System.out.println("promise " + promise + ": " + what + " answered " + got + ", due is " + want);
-        }
-    }
-
-    private static void is(String what, boolean got, boolean want) { is(what, got ? 1 : 0, want ? 1 : 0); }
-
-    private static void fails(String what, Class<?> how, Runnable call) {
-        checks++;
-        Class<?> got = null;
-        try {
-            call.run();
-        } catch (RuntimeException e) {
-            got = e.getClass();
-        }
-        if (got != how) {
-            wrong++;
-            System.out.println("promise " + promise + ": " + what + " threw " + got + ", due is " + how);
-        }
-    }
-
-    private static void index(String what, IntSupplier call) { fails(what, INDEX, call::getAsInt); }
-    private static void argument(String what, IntSupplier call) { fails(what, ARGUMENT, call::getAsInt); }
-    private static void indexOf(String what, BooleanSupplier call) { fails(what, INDEX, call::getAsBoolean); }
-
-    private static void tell(FourHands x, String text) {
-        x.end(0);
-        byte[] b = java.util.Arrays.copyOf(text.getBytes(java.nio.charset.StandardCharsets.ISO_8859_1), (text.length() + 19) / 20 * 20);
-        java.nio.ByteBuffer all = java.nio.ByteBuffer.wrap(b);
-        while (all.hasRemaining()) x.feed(all.getInt(), all.getInt(), all.getInt(), all.getInt(), all.getInt());
-        x.end(text.length());
-    }
-
-    private static void tellBytes(FourHands x, int... bytes) {
-        StringBuilder s = new StringBuilder();
-        for (int b : bytes) s.append((char) b);
-        tell(x, s.toString());
-    }
-
-    private static FourHands piece(String... texts) {
-        FourHands x = new FourHands();
-        for (String t : texts) add(x, t);
-        return x;
-    }
-
-    private static int add(FourHands x, String text) { tell(x, text); return x.piece(); }
-    private static int rule(FourHands x, String text) { tell(x, text); return x.law(); }
-
-    private static void wrongPiece(FourHands x, String text, int place) {
-        fails("piece \"" + text + "\"", ARGUMENT, () -> add(x, text));
-        is("fault() of \"" + text + "\"", x.fault(), place);
-    }
-
-    private static void wrongLaw(FourHands x, String text, int place) {
-        fails("law \"" + text + "\"", ARGUMENT, () -> rule(x, text));
-        is("fault() of \"" + text + "\"", x.fault(), place);
-    }
-
-    private static String lines(String line, int times) {
-        return String.join(";", java.util.Collections.nCopies(times, line));
-    }
 
     public static void main(String[] args) {
         texts();
@@ -96,8 +17,7 @@ public final class PromisesTest {
         choices();
         looksAhead();
         logAndPast();
-        System.out.println("PromisesTest: " + (checks - wrong) + " of " + checks + " checks hold");
-        if (wrong > 0) System.exit(1);
+        report("PromisesTest");
     }
 
     private static void texts() {
