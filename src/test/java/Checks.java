@@ -15,6 +15,8 @@ class Checks {
     static final Class<?> ELEMENT = NoSuchElementException.class;
     static final Class<?> UNSUPPORTED = UnsupportedOperationException.class;
 
+    static final int LOG_ROWS = 60;
+
     static int checks = 0;
     static int wrong = 0;
     static int promise = 0;
@@ -106,6 +108,24 @@ class Checks {
     }
 
     static String lines(String line, int times) { return String.join(";", Collections.nCopies(times, line)); }
+
+    /** All that can be seen plainly of an object, its seed too; the tape, the law and the image stay unseen. */
+    static String look(FourHands x) {
+        StringBuilder s = new StringBuilder();
+        for (int what = 0; what < 14; what++) s.append(x.count(what)).append(' ');
+        for (int hand = 0; hand < x.count(0); hand++) {
+            for (int what = 0; what < 6; what++) s.append(x.hand(hand, what)).append(what < 5 ? ',' : ' ');
+        }
+        for (int note = 0; note < x.count(1); note++) {
+            for (int what = 0; what < 5; what++) s.append(x.note(note, what)).append(what < 4 ? ',' : ' ');
+        }
+        for (int ago = 0; ago < LOG_ROWS; ago++) {
+            for (int what = 0; what < 4; what++) s.append(x.log(ago, what)).append(what < 3 ? ',' : ' ');
+        }
+        int seed = x.seed(0);
+        x.seed(seed);
+        return s.append(seed).append(' ').append(x.fault()).toString();
+    }
 
     static void report(String name) {
         System.out.println(name + ": " + (checks - wrong) + " of " + checks + " checks hold");

@@ -7,8 +7,6 @@ import java.util.function.Supplier;
  * objects of its own, so that none is used for more than 512 calls.
  */
 public final class RefusedTest extends Checks {
-    private static final int LOG_ROWS = 60;
-
     public static void main(String[] args) {
         recipeIsRich();
         withoutHands();
@@ -77,23 +75,6 @@ public final class RefusedTest extends Checks {
     }
 
     // ---- what can be seen of an object
-
-    private static String look(FourHands x) {
-        StringBuilder s = new StringBuilder();
-        for (int what = 0; what < 14; what++) s.append(x.count(what)).append(' ');
-        for (int hand = 0; hand < x.count(0); hand++) {
-            for (int what = 0; what < 6; what++) s.append(x.hand(hand, what)).append(what < 5 ? ',' : ' ');
-        }
-        for (int note = 0; note < x.count(1); note++) {
-            for (int what = 0; what < 5; what++) s.append(x.note(note, what)).append(what < 4 ? ',' : ' ');
-        }
-        for (int ago = 0; ago < LOG_ROWS; ago++) {
-            for (int what = 0; what < 4; what++) s.append(x.log(ago, what)).append(what < 3 ? ',' : ' ');
-        }
-        int seed = x.seed(0);
-        x.seed(seed);
-        return s.append(seed).append(' ').append(x.fault()).toString();
-    }
 
     private static String lookAtTape(FourHands x) {
         int behind = x.feed(0, 0, 0, 0, 0);

@@ -56,7 +56,6 @@ public final class TextEdgesTest extends Checks {
             FourHands x = new FourHands();
             feedBlanks(x);
             x.end(has);
-            bounded("end", 0, has, null, n -> { });
             for (int n : new int[] {Integer.MIN_VALUE, -1, has + 1, Integer.MAX_VALUE}) is("end(" + n + ") of " + has, x.end(n), false);
             is("end(" + has + ") of " + has, x.end(has), true);
             is("end(0) of " + has, x.end(0), true);
