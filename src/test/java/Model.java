@@ -813,7 +813,11 @@ public final class Model {
     }
 
     public int tires() {
-        for (int n = 0; n <= 60; n++) for (int h = 0; h < all.hands.size(); h++) if (ahead(h, n, 1) >= 50) return n;
+        All a = all.copy();
+        for (int n = 0; n <= 60; n++) {
+            for (Hand h : a.hands) if (h.tired >= 50) return n;
+            playOne(a, false);
+        }
         return NONE;
     }
 

@@ -8,12 +8,17 @@ import java.util.Random;
 
 /** Runs of chance calls on FourHands and on Model: every answer and every exception must be the same. */
 public final class ModelTest {
-    private static final int RUNS = 400;
-    private static final int CALLS = 160;
+    private static final int RUNS = 600;
+    // What later calls of an object answer is free.
+    private static final int CALLS_MOST = 512;
+    private static final int LOOK = 14 + 6 * 8 + 14 * 5 + 9 * 4 + 1;
+    // The tape may take 20 rows; ahead and behind them it is cut, then comes the call and a glance.
+    private static final int TELL = 20 + 3 + 5;
     private final Random random;
     private final FourHands hands = new FourHands();
     private final Model model = new Model();
     private final StringBuilder story = new StringBuilder();
+    private int calls = 0;
     private static final List<Method> FACE = face();
 
     private ModelTest(long seed) { random = new Random(seed); }
@@ -45,7 +50,7 @@ public final class ModelTest {
         int crowd = random.nextInt(8);
         if (!tell("piece", pieceText(crowd, true))) return false;
         if (random.nextInt(4) > 0 && !tell("law", lawText())) return false;
-        for (int i = 0; i < CALLS; i++) {
+        for (int i = 0; calls < CALLS_MOST - LOOK - TELL; i++) {
             int kind = random.nextInt(30);
             boolean same;
             if (kind == 0) same = tell("piece", spoilt(pieceText(crowd, false)));
@@ -53,10 +58,14 @@ public final class ModelTest {
             else if (kind == 2) same = tell(random.nextBoolean() ? "whose" : "ask", rows());
             else if (kind == 3) same = tell("next", keys());
             else same = call(FACE.get(random.nextInt(FACE.size())));
-            if (!same) return false;
-            if (i % 8 == 0 && !look()) return false;
+            if (!same || i % 4 == 0 && !glance()) return false;
         }
         return look();
+    }
+
+    /** Something that can be seen plainly is the same. */
+    private boolean glance() throws Exception {
+        return call("count", n(14)) && call("hand", n(6), n(8)) && call("note", n(14), n(5)) && call("log", n(61), n(4)) && call("fault");
     }
 
     /** All that can be seen plainly is the same. */
@@ -88,6 +97,7 @@ public final class ModelTest {
     }
 
     private boolean call(String name, Object... args) throws Exception {
+        calls++;
         String a = answer(hands, name, args);
         String b = answer(model, name, args);
         if (!name.matches("count|hand|note|log|fault") || !a.equals(b)) {

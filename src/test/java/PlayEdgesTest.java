@@ -484,16 +484,11 @@ public final class PlayEdgesTest extends Checks {
         }
         is("the row of beat 11 is of the page that was", x.log(1, 0), 999);
         is("the row of beat 0 is of the next one", x.log(0, 0), 1000);
-        // No 512 calls lead there: what stands behind them is the class's own care, not a promise.
-        says("PAGE is 1 more (9999 at most)");
-        FourHands last = piece("page 999;note 1 at 11");
-        for (int page = 999; page < 9994; page += 5) last.turn(60);
-        last.turn(48);
-        for (int page : new int[] {9998, 9999, 9999}) {
-            is("page", last.count(5), page);
-            last.turn(12);
-        }
-        is("the page of a row", last.log(0, 0), 9999);
+        says("PAGE 0 to 9999");
+        FourHands far = piece("page 999;note 1 at 11");
+        for (int calls = 1; calls <= 480; calls++) far.turn(60);
+        is("five pages a call", far.count(5), 999 + 5 * 480);
+        is("the page of a row", far.log(0, 0), 999 + 5 * 480 - 1);
     }
 
     private static void countsAtMost() {
@@ -769,24 +764,29 @@ public final class PlayEdgesTest extends Checks {
         is("with slip 100", x.bounds(60, false), 61);
         is("with slip 100", x.bounds(60, true), 61);
         is("0 turns", x.bounds(0, true), 1);
+        for (int n = 1; n <= 7; n++) boundsOf(n);
+    }
+
+    /** Somewhere among these each of the six seeds is the one that counts, and one more at either end would be. */
+    private static void boundsOf(int n) {
         FourHands y = steady(9);
-        for (int slip = 5; slip < 100; slip += 10) {
+        y.seed(7);
+        for (int slip = 1; slip < 100; slip++) {
             y.slip(slip);
             int least = 99;
             int greatest = -1;
             for (int from = 1; from <= 6; from++) {
                 int seed = from;
                 int slips = 0;
-                for (int n = 0; n < 7; n++) {
+                for (int i = 0; i < n; i++) {
                     seed = next(seed);
                     slips += draw(seed) < slip ? 1 : 0;
                 }
                 least = Math.min(least, slips);
                 greatest = Math.max(greatest, slips);
             }
-            y.seed(7);
-            is("least with slip " + slip, y.bounds(7, false), least);
-            is("greatest with slip " + slip, y.bounds(7, true), greatest);
+            is("least of " + n + " with slip " + slip, y.bounds(n, false), least);
+            is("greatest of " + n + " with slip " + slip, y.bounds(n, true), greatest);
         }
     }
 
@@ -795,10 +795,10 @@ public final class PlayEdgesTest extends Checks {
     private static void log() {
         promise = 60;
         says("THE LOG: the latest 60 NOTES that came");
-        FourHands x = steady(9);
-        add(x, "page 7");
         for (int turns = 1; turns <= 75; turns++) {
-            x.turn(1);
+            FourHands x = steady(9);
+            add(x, "page 7");
+            after(x, turns);
             int rows = Math.min(60, turns);
             is("rows", x.count(12), rows);
             is("the latest", x.log(0, 1), (turns - 1) % 12);
@@ -808,6 +808,7 @@ public final class PlayEdgesTest extends Checks {
             for (int what = 0; what < 4; what++) is("behind the oldest", x.log(rows, what), -2);
         }
         says("- 2 without");
+        FourHands x = after(steady(9), 75);
         for (int ago : new int[] {Integer.MIN_VALUE, -1, 60, Integer.MAX_VALUE}) for (int what = 0; what < 4; what++) is("log(" + ago + ")", x.log(ago, what), -2);
         FourHands ends = piece("hand of 0 at 0 reach 0 skill 9;hand of 0 at 1 reach 0 skill 9;hand of 0 at 2 reach 0 skill 9;hand of 0 at 3 reach 0 skill 9;"
             + "hand of 0 at 4 reach 0 skill 9;hand of 0 at 63 reach 0 skill 9", everyBeat(50), "note 51 at 0;note 63 at 0;page 999;slip 100");
@@ -873,25 +874,44 @@ public final class PlayEdgesTest extends Checks {
         y.bind(0, false);
         y.turn(12);
         is("the latest has a hand", y.led(0, true), 0);
+        FourHands z = piece("hand of 0 at 1 reach 0 skill 9;hand of 0 at 9 reach 0 skill 9;note 1 at 0;note 50 at 1");
+        z.turn(2);
+        z.put(1, 1);
+        z.bind(0, true);
+        z.turn(12);
+        is("another hand, though rows of others came behind", z.led(0, true), 1);
+        is("both rows count", z.led(0, false), 2);
+        is("rows of others", z.led(1, false), 2);
     }
 
     // ---- acts undone and the image
 
-    /** Behind the act and one undo all is as it was, also where the act changed nothing. */
-    private static void undoes(String what, Consumer<FourHands> act, boolean changes) {
+    /** Six hands, fourteen notes, a law, rows of the log, a seed, and two acts. */
+    private static FourHands played() {
         FourHands x = crowd(6, 14);
         rule(x, "take if low");
         x.slip(50);
         x.turn(30);
         x.seed(77);
-        String before = look(x);
+        return x;
+    }
+
+    private static FourHands actedOn(Consumer<FourHands> act) {
+        FourHands x = played();
         act.accept(x);
-        is(what + " is one act", x.count(13), 3);
-        String behind = look(x).substring(0, look(x).lastIndexOf(' '));
-        is(what + " changes more than the acts", !behind.replaceFirst(" 3 (?=\\d+,)", " 2 ").equals(before.substring(0, before.lastIndexOf(' '))), changes);
-        x.seed(5);
-        is("undo", x.undo(), true);
-        is("all behind " + what + " undone", look(x), before);
+        return x;
+    }
+
+    /** Behind the act and one undo all is as it was, also where the act changed nothing. */
+    private static void undoes(String what, Consumer<FourHands> act, boolean changes) {
+        String before = look(played());
+        FourHands behind = actedOn(act);
+        is(what + " is one act", behind.count(13), 3);
+        is(what + " changes more than the acts", !look(behind).replaceFirst(" 3 (?=\\d+,)", " 2 ").equals(before), changes);
+        FourHands back = actedOn(act);
+        back.seed(5);
+        is("undo", back.undo(), true);
+        is("all behind " + what + " undone", look(back), before);
     }
 
     private static void undone() {

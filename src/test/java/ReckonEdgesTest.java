@@ -185,6 +185,17 @@ public final class ReckonEdgesTest extends Checks {
         int[] keys = {0, 7, 8, 9, 10, 62, 63};
         int[] due = {0, 0, 0, 1, 2, 54, 55};
         for (int i = 0; i < keys.length; i++) is("key " + keys[i], piece("note " + keys[i] + " at 11 hard 9").best(), due[i]);
+        is("many are left over all the same", piece(chord(0, 40, 41, 42, 43, 44, 45, 46, 47, 48, 49, 50, 51, 52, 53)).best(), 32);
+        FourHands ends = piece("note 63 at 0;note 0 at 1;note 0 at 2");
+        rule(ends, "near 8");
+        is("key 0", ends.best(), 0);
+        ends.strike(1, true);
+        ends.strike(2, true);
+        is("key 63", ends.best(), 63);
+        rule(ends, "near 40");
+        is("it reaches 0 at least", ends.best(), 63);
+        rule(ends, "near 7");
+        is("key 62", ends.best(), 62);
         is("16 apart", piece("note 20 at 0;note 36 at 1").best(), 28);
         is("17 apart", piece("note 20 at 0;note 37 at 1").best(), 12);
         is("at one beat one alone", piece("note 20 at 0;note 36 at 0").best(), 12);
@@ -197,6 +208,8 @@ public final class ReckonEdgesTest extends Checks {
         x.strike(0, false);
         rule(x, "near 8 if player < 2");
         is("player 2, not 1", x.best(), 32);
+        rule(x, "near 8 if player > 2");
+        is("player 2, not 3", x.best(), 32);
         rule(x, "near 8 if player > 1");
         is("player 2, not 1", x.best(), 40);
         rule(x, "near 8 if tired > 0");
@@ -487,12 +500,12 @@ public final class ReckonEdgesTest extends Checks {
     private static void whoseRows() {
         promise = 40;
         says("of each two bytes: the NOTE, 1 or 0; at most 40 bytes");
-        FourHands x = piece("note 5 at 0");
         for (int n = 0; n <= 44; n++) {
+            FourHands x = piece("note 5 at 0");
             if (n <= 40 && n % 2 == 0) rowsStand(n + " bytes", x, new int[n]);
             else rowsFail(n + " bytes", x, new int[n]);
         }
-        rowsFail("400 bytes", x, new int[400]);
+        rowsFail("400 bytes", piece("note 5 at 0"), new int[400]);
         for (int b = 0; b < 256; b++) {
             FourHands y = piece("note 5 at 0");
             if (b > 1) rowsFail("second byte " + b, y, 0, 1, 0, b);
@@ -570,6 +583,10 @@ public final class ReckonEdgesTest extends Checks {
         is("players 0 and 2 have nothing", ends.trade(0, 2), -1);
         is("first 2, second 0", ends.trade(2, 1), 12);
         is("a player without hands", piece("hand of 0 at 10 reach 0 skill 9;note 10 at 0").trade(0, 1), -1);
+        is("one of the two has no hands", piece(lines("hand of 1 at 10 reach 0 skill 9", 2), row(10, 0, 1)).trade(1, 0), -1);
+        FourHands lone = piece("hand of 1 at 10 reach 0 skill 9;hand of 1 at 20 reach 0 skill 9", row(10, 0), row(20, 0));
+        is("2 and 0, and none to change with", lone.trade(1, 0), -1);
+        is("2 and 0, and none to change with", lone.trade(0, 1), -1);
         is("players stay", ends.hand(5, 0), 0);
     }
 
@@ -710,6 +727,7 @@ public final class ReckonEdgesTest extends Checks {
         is("none", new FourHands().alike(), 0);
         is("one", piece("hand of 0 at 1 reach 2 skill 3").alike(), 0);
         is("of unlike players, at unlike keys", piece("hand of 0 at 1 reach 2 skill 3;hand of 1 at 9 reach 2 skill 3").alike(), 1);
+        is("one without reach and skill", piece("hand of 0 at 0 reach 0 skill 0").alike(), 0);
         is("another reach", piece("hand of 0 at 1 reach 2 skill 3;hand of 0 at 1 reach 3 skill 3").alike(), 0);
         is("another skill", piece("hand of 0 at 1 reach 2 skill 3;hand of 0 at 1 reach 2 skill 4").alike(), 0);
         is("all of six", piece(lines("hand of 0 at 1 reach 40 skill 9", 6)).alike(), 15);

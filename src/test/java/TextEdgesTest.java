@@ -1,3 +1,7 @@
+import java.util.ArrayList;
+import java.util.List;
+import java.util.function.Supplier;
+
 /** The tape, texts of the piece and of the law (promises 2 to 6): each bound from both of its sides. */
 public final class TextEdgesTest extends Checks {
     private static final String HAND = "hand of 0 at 1 reach 2 skill 3";
@@ -10,11 +14,14 @@ public final class TextEdgesTest extends Checks {
         pieceSameKeys();
         pieceTexts();
         pieceBytes();
+        pieceWords();
         pieceMoreMustCome();
         lawNumbers();
         lawLines();
         lawDepth();
         lawBytes();
+        lawWords();
+        lawMostOpen();
         lawMoreMustCome();
         lawMeaning();
         lawThird();
@@ -260,6 +267,35 @@ public final class TextEdgesTest extends Checks {
         is("fault() of \"" + text + "\"", x.fault(), due);
     }
 
+    /** A word that is none is wrong at its begin: with one letter less, one more, or another one. */
+    private static List<String> noWords(String word) {
+        List<String> none = new ArrayList<>();
+        for (int i = 0; i < word.length(); i++) {
+            none.add(word.substring(0, i) + (word.charAt(i) == 'z' ? 'a' : 'z') + word.substring(i + 1));
+            none.add(word.substring(0, i) + (char) (word.charAt(i) - 32) + word.substring(i + 1));
+            if (word.length() > 1) none.add(word.substring(0, i) + word.substring(i + 1));
+        }
+        none.add(word + "s");
+        none.add("a" + word);
+        return none;
+    }
+
+    private static void pieceWords() {
+        says("a word that is none");
+        String[] rows = {"hand of 0 at 1 reach 2 skill 3", "note 4 at 5 hard 6", "slip 7", "beat 8", "page 9"};
+        for (String row : rows) {
+            String[] things = row.split(" ");
+            int at = 0;
+            for (String thing : things) {
+                if (Character.isLetter(thing.charAt(0))) {
+                    for (String none : noWords(thing)) place(new FourHands(), row.substring(0, at) + none + row.substring(at + thing.length()), at);
+                }
+                at += thing.length() + 1;
+            }
+            place(new FourHands(), row, -1);
+        }
+    }
+
     private static void pieceMoreMustCome() {
         says("or the text's length, if more must come");
         String[][] rows = {{"hand", "of", "1", "at", "2", "reach", "3", "skill", "4"}, {"note", "5", "at", "6"}, {"slip", "7"}, {"beat", "8"}, {"page", "9"}};
@@ -348,9 +384,9 @@ public final class TextEdgesTest extends Checks {
 
     private static void lawDepth() {
         says("( and not within one another at most 6 deep.");
-        FourHands x = one();
         for (int deep = 0; deep <= 6; deep++) {
             for (int mix = 0; mix < 1 << deep; mix++) {
+                FourHands x = one();
                 StringBuilder ahead = new StringBuilder("far 1 if ");
                 StringBuilder behind = new StringBuilder();
                 int nots = 0;
@@ -372,6 +408,7 @@ public final class TextEdgesTest extends Checks {
                 }
             }
         }
+        FourHands x = one();
         is("beside one another", rule(x, "far 1 if " + "(low)and ".repeat(8) + "not not left and not left or (low)"), 1);
         is("it holds", x.reaches(0, 0), 11);
         is("as deep again", rule(x, "far 1 if ((((((low)))))) and ((((((low)))))) or not (not (not (left)))"), 1);
@@ -405,6 +442,36 @@ public final class TextEdgesTest extends Checks {
         placeOfLaw(one(), "far1iflow", 4);
         placeOfLaw(one(), "far1if low;near2if(left)or(low)and not(1<2+key)", -1);
         placeOfLaw(one(), "  far  1  if  ( left )  or  not  key  +  1  >  2  ;  take  ", -1);
+    }
+
+    private static void lawWords() {
+        says("a word that is none");
+        String law = "far 1 if left or low and not hand < key + hard;near 2 if tired > player + beat;take if page < 3";
+        int at = 0;
+        for (String thing : law.split("(?<=[ ;])")) {
+            String word = thing.replaceAll("[ ;]", "");
+            if (Character.isLetter(word.charAt(0))) {
+                for (String none : noWords(word)) placeOfLaw(new FourHands(), law.substring(0, at) + none + law.substring(at + word.length()), at);
+            }
+            at += thing.length();
+        }
+        placeOfLaw(new FourHands(), law, -1);
+    }
+
+    /** All that may stand open at once: at each of 7 levels an or and an and, and sums at the innermost one. */
+    private static void lawMostOpen() {
+        promise = 5;
+        says("( and not within one another at most 6 deep.");
+        for (int which = 0; which < 2; which++) {
+            String whole = which == 0 ? "2 < 1" : "1 < 2";
+            StringBuilder c = new StringBuilder();
+            for (int i = 0; i < 6; i++) c.append("2 < 1 or 1 < 2 and (");
+            c.append("2 < 1 or 1 < 2 and ").append(which == 0 ? "3 > 1 + 1 + 1" : "3 > 1 + 1");
+            for (int i = 0; i < 6; i++) c.append(')');
+            FourHands x = one();
+            is("law", rule(x, "far 1 if " + c + ";far 2 if " + whole), 2);
+            is("it holds", x.reaches(0, 0), which == 0 ? 10 : 13);
+        }
     }
 
     private static void lawMoreMustCome() {
@@ -452,7 +519,8 @@ public final class TextEdgesTest extends Checks {
         placeOfLaw(one(), "take if (low;take)", 12);
     }
 
-    private static void holds(FourHands x, int note, String condition, boolean due) {
+    private static void holds(Supplier<FourHands> recipe, int note, String condition, boolean due) {
+        FourHands x = recipe.get();
         rule(x, "far 1 if " + condition);
         is("far 1 if " + condition + " for note " + note, x.reaches(0, note), due ? 11 : 10);
         rule(x, "near 1 if " + condition);
@@ -460,7 +528,7 @@ public final class TextEdgesTest extends Checks {
     }
 
     private static void lawMeaning() {
-        FourHands x = one();
+        Supplier<FourHands> x = TextEdgesTest::one;
         says("left: the KEY is below that where the HAND is AT");
         holds(x, 2, "left", false);
         holds(x, 3, "left", true);
@@ -468,7 +536,7 @@ public final class TextEdgesTest extends Checks {
         says("low: the KEY is below 32.");
         holds(x, 0, "low", true);
         holds(x, 1, "low", false);
-        FourHands ends = piece("hand of 0 at 0 reach 10 skill 0;note 0 at 0;note 63 at 0");
+        Supplier<FourHands> ends = () -> piece("hand of 0 at 0 reach 10 skill 0;note 0 at 0;note 63 at 0");
         holds(ends, 0, "low", true);
         holds(ends, 1, "low", false);
         says("SUM < SUM | SUM > SUM");
@@ -481,16 +549,20 @@ public final class TextEdgesTest extends Checks {
             holds(x, 0, "998 > " + (998 + d), d < 0);
         }
         says("Of a HAND and a NOTE: key, hard, beat: of the NOTE");
-        add(x, "page 7;beat 9");
-        x.turn(60);
-        x.put(0, 29);
+        Supplier<FourHands> tired = () -> {
+            FourHands y = one();
+            add(y, "page 7;beat 9");
+            y.turn(60);
+            y.put(0, 29);
+            return y;
+        };
         String[] names = {"hand", "key", "hard", "tired", "player", "beat", "page"};
-        int[] values = {0, 31, 4, x.hand(0, 4), 1, 2, 12};
+        int[] values = {0, 31, 4, tired.get().hand(0, 4), 1, 2, 12};
         for (int i = 0; i < names.length; i++) {
-            holds(x, 0, names[i] + " < " + (values[i] + 1), true);
-            holds(x, 0, names[i] + " < " + values[i], false);
-            holds(x, 0, names[i] + " + 1 > " + values[i], true);
-            holds(x, 0, names[i] + " > " + values[i], false);
+            holds(tired, 0, names[i] + " < " + (values[i] + 1), true);
+            holds(tired, 0, names[i] + " < " + values[i], false);
+            holds(tired, 0, names[i] + " + 1 > " + values[i], true);
+            holds(tired, 0, names[i] + " > " + values[i], false);
         }
         says("ALL { or ALL }; ALL: ATOM { and ATOM }");
         String[] atoms = {"1 < 2", "2 < 1"};
