@@ -99,6 +99,11 @@ public final class PlayEdgesTest extends Checks {
         is("easy", x.easy(), true);
         is("page", x.count(5), 5);
         is("no draws", x.seed(0), 5);
+        says("An object is used for at most 512 calls after it has been made");
+        FourHands busy = new FourHands();
+        for (int call = 1; call <= 510; call++) busy.slip(call % 101);
+        is("the 511th call", busy.undo(), true);
+        is("the 512th call", busy.count(6), 509 % 101);
     }
 
     private static void handsAndNotesThatAre() {

@@ -242,6 +242,16 @@ public final class ReckonEdgesTest extends Checks {
         is("one that must be, and the least of the others", z.clean(), 1 | 2 | 4);
         FourHands t = piece(lines("hand of 0 at 10 reach 20 skill 9", 6), chord(0, 1, 2, 3, 4, 5, 6), chord(1, 1, 2, 3, 4, 5, 6, 7, 8));
         is("six at beat 0, eight at beat 1", t.clean(), 1 << 6 | 1 << 7);
+        FourHands chain = piece("hand of 0 at 0 reach 5 skill 9;hand of 0 at 10 reach 5 skill 9;hand of 0 at 20 reach 5 skill 9;hand of 0 at 30 reach 5 skill 9;"
+            + "hand of 0 at 40 reach 5 skill 9;hand of 0 at 50 reach 5 skill 9", chord(6, 0, 45, 35, 25, 15, 5));
+        is("for key 0 all others move up", chain.clean(), 0);
+        add(chain, "note 55 at 6");
+        is("one is too many: the least", chain.clean(), 1);
+        FourHands round = piece("hand of 0 at 17 reach 8 skill 9;hand of 0 at 24 reach 6 skill 9;hand of 0 at 24 reach 2 skill 9;hand of 0 at 24 reach 2 skill 9",
+            chord(0, 10, 30, 20, 22));
+        is("keys 10, 20 and 30 have two hands", round.clean(), 1);
+        round.strike(2, true);
+        is("keys 10 and 30 have them", round.clean(), 0);
         FourHands move = piece("hand of 0 at 10 reach 1 skill 9;hand of 0 at 11 reach 9 skill 9", chord(0, 10, 11, 20));
         is("hand 1 is for key 20 alone", move.clean(), 1);
         move.strike(0, true);

@@ -469,7 +469,7 @@ public final class TextEdgesTest extends Checks {
             c.append("2 < 1 or 1 < 2 and ").append(which == 0 ? "3 > 1 + 1 + 1" : "3 > 1 + 1");
             for (int i = 0; i < 6; i++) c.append(')');
             FourHands x = one();
-            is("law", rule(x, "far 1 if " + c + ";far 2 if " + whole), 2);
+            is("law", rule(x, lines("far 0", 10) + ";far 2 if " + whole + ";far 1 if " + c), 12);
             is("it holds", x.reaches(0, 0), which == 0 ? 10 : 13);
         }
     }
